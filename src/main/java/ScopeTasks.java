@@ -501,19 +501,18 @@ public final class ScopeTasks {
 
         private boolean readOperation(int t) {
             int kind = tokens.kind;
-            if (kind == 'b' || kind == 'j' || kind == 'x') {
+            int number = 0;
+            if (kind == 'w' || kind == 'f') {
                 tokens.advance();
-                return plan.addOperation(t, kind, 0);
-            }
-            if (kind != 'w' && kind != 'f') {
+                if (!tokens.isNumberWithin(1, 9)) {
+                    return false;
+                }
+                number = tokens.value;
+            } else if (kind != 'b' && kind != 'j' && kind != 'x') {
                 return false;
             }
             tokens.advance();
-            if (!tokens.isNumberWithin(1, 9) || !plan.addOperation(t, kind, tokens.value)) {
-                return false;
-            }
-            tokens.advance();
-            return true;
+            return plan.addOperation(t, kind, number);
         }
 
         private boolean readEnd() {
@@ -549,9 +548,8 @@ public final class ScopeTasks {
         final int[] eventTask = new int[MOST_EVENTS];
         final int[] eventKind = new int[MOST_EVENTS];
 
-        Run(Plan plan) {
-            this.plan = plan;
-            restart(plan);
+        Run(Plan itsPlan) {
+            restart(itsPlan);
         }
 
         /** The beginning of a plan: its ROOT is RUNNING. */

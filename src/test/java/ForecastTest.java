@@ -12,6 +12,7 @@ public final class ForecastTest {
         spares();
         sparesWithinTwoHundred();
         nothingIsChanged();
+        eachByWhatWasTold();
         CHECK.end();
     }
 
@@ -135,6 +136,24 @@ public final class ForecastTest {
         CHECK.due("spares(1): not with it", later.spares(1), -1000000);
     }
 
+    /** What one call supposes must not reach the next one. */
+    private static void eachByWhatWasTold() {
+        ScopeTasks x = CHECK.told("rb;t0w9;d0 20;d1 20;", 4);
+        x.sees(1, 5, 1);
+        for (int i = 0; i < 3; i++) {
+            CHECK.due("wellBy()", x.wellBy(), 11);
+            CHECK.due("ends(1, 0) behind wellBy()", x.ends(1, 0), 11);
+            CHECK.due("fits(1)", x.fits(1), 0xe);
+            CHECK.due("spares(0) behind fits()", x.spares(0), 10);
+            CHECK.due("fits(0)", x.fits(0), 0x1e);
+            CHECK.due("ends(0, 1) behind fits()", x.ends(0, 1), 0);
+        }
+        x.ticks(2);
+        CHECK.due("wellBy()", x.wellBy(), 11);
+        CHECK.due("ends(1, 0) at 2", x.ends(1, 0), 11);
+        CHECK.due("spares(1) at 2", x.spares(1), 8);
+    }
+
     private static void nothingIsChanged() {
         ScopeTasks x = CHECK.told("rbbj;t0w3f1;t0w9;d0 30;", 4);
         x.ticks(3);
@@ -143,7 +162,9 @@ public final class ForecastTest {
             x.ends(t, 0);
             x.spares(t);
         }
-        x.wellBy();
+        CHECK.due("wellBy()", x.wellBy(), -9);
+        CHECK.due("ends(0, 0) behind wellBy()", x.ends(0, 0), 6);
+        CHECK.due("ends(0, 1) behind wellBy()", x.ends(0, 1), 1);
         int[] counts = {3, 3, 3, 0, 0, 2, 0, 0, 3};
         for (int what = 0; what < counts.length; what++) {
             CHECK.due("count(" + what + ")", x.count(what), counts[what]);

@@ -7,6 +7,7 @@ public final class ImagesTest {
         allOfTheTasks();
         nothingElse();
         twoImages();
+        imagesOfTwoWays();
         CHECK.end();
     }
 
@@ -69,6 +70,36 @@ public final class ImagesTest {
         x.ticks(1);
         CHECK.due("undo()", x.undo(), 0);
         CHECK.due("count(1)", x.count(1), 2);
+    }
+
+    /** Two ways from one beginning: each image keeps its own lists, trace and ends. */
+    private static void imagesOfTwoWays() {
+        ScopeTasks x = CHECK.told("rbbw3j;g0;t0w2f1;t0w2f2;c1 2;", 5);
+        x.keep(1);
+        x.ticks(8);
+        CHECK.due("LIST of 0", Check.list(x, 0), "2 1");
+        CHECK.due("ends", x.ends(1, 0) + " " + x.ends(2, 0), "5 5");
+        String trace = Check.trace(x);
+        CHECK.due("keep(0)", x.keep(0), 7);
+        CHECK.due("back(1)", x.back(1), 0);
+        x.ticks(2);
+        x.asks(2);
+        x.ticks(12);
+        CHECK.due("LIST of 0, 2 being ASKED", Check.list(x, 0), "1");
+        CHECK.due("ends, 2 being ASKED", x.ends(1, 0) + " " + x.ends(2, 0), "5 3");
+        CHECK.due("back(0)", x.back(0), 7);
+        CHECK.due("LIST of 0 behind back", Check.list(x, 0), "2 1");
+        CHECK.due("ends behind back", x.ends(1, 0) + " " + x.ends(2, 0), "5 5");
+        CHECK.due("trace behind back", Check.trace(x), trace);
+        ScopeTasks begun = CHECK.told("rw1b;t0w2;", 2);
+        begun.ticks(2);
+        begun.keep(0);
+        begun.ticks(12);
+        begun.back(0);
+        begun.ticks(1);
+        CHECK.due("behind, one TICK later", Check.each(begun, 3), "2 0");
+        begun.ticks(1);
+        CHECK.due("behind, two TICKS later", Check.each(begun, 3), "2 1");
     }
 
     private static void twoImages() {

@@ -201,5 +201,22 @@ public final class TextTest {
         CHECK.due("count(0)", x.count(0), 1);
         CHECK.due("count(1)", x.count(1), 0);
         CHECK.due("ends(0, 0)", x.ends(0, 0), 1);
+        settingsAnew();
+    }
+
+    private static void settingsAnew() {
+        ScopeTasks x = CHECK.told("rbbj;t0w9;t0f1;d0 9;d1 3;s0 3;s1 2;c0 5;c1 5;c2 5;g0;g1;g2;", 13);
+        x.asks(0);
+        x.ticks(12);
+        x.ticks(12);
+        Check.write(x, "rbbj;t0w9;t0f1;c1 5;");
+        CHECK.due("tree()", x.tree(), 4);
+        CHECK.due("DUE", Check.each(x, 4), "-9 -9 -9");
+        CHECK.due("ends(0, 0): nothing gathers", x.ends(0, 0), 8);
+        x.asks(0);
+        CHECK.due("ends(0, 0): nothing shields", x.ends(0, 0), 1);
+        x.undo();
+        x.ticks(12);
+        CHECK.due("trace", Check.trace(x), "1:1:0 2:2:0 3:2:1 3:2:2 3:0:1 4:1:1 8:1:2 8:0:2");
     }
 }
