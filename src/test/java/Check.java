@@ -75,4 +75,39 @@ final class Check {
             x.ticks(1);
         }
     }
+
+    /** All that the calls that change nothing tell of an object of few TASKS. */
+    static String look(ScopeTasks x) {
+        StringBuilder all = new StringBuilder();
+        for (int what = 0; what <= 8; what++) {
+            all.append(x.count(what)).append(' ');
+        }
+        for (int what = 0; what <= 7; what++) {
+            all.append('/').append(each(x, what));
+        }
+        all.append("/ ").append(trace(x)).append("/ ").append(x.wellBy());
+        for (int t = 0; t < x.count(0); t++) {
+            all.append('/').append(list(x, t)).append(' ').append(x.ends(t, 0)).append(' ').append(x.ends(t, 1))
+                .append(' ').append(x.spares(t)).append(' ').append(x.fits(t));
+        }
+        return all.toString();
+    }
+
+    /**
+     * All that an object shows, and all that it remembers: its acts, its images, what was SEEN and THE TEXT. Two objects
+     * that tell the same here are alike. The object is of no use behind this.
+     */
+    static String everything(ScopeTasks x) {
+        StringBuilder all = new StringBuilder(look(x));
+        for (int left = x.undo(); left >= 0; left = x.undo()) {
+            all.append("\nundo ").append(left).append(": ").append(x.count(1)).append('/').append(each(x, 1))
+                .append('/').append(each(x, 5));
+        }
+        for (int image = 0; image <= 1; image++) {
+            all.append("\nback ").append(x.back(image)).append(": ").append(trace(x)).append('/').append(each(x, 1));
+        }
+        all.append("\nforget ").append(x.forget()).append(", tree ").append(x.tree()).append(": ").append(each(x, 0))
+            .append('/').append(x.ends(0, 0)).append(", clear ").append(x.clear());
+        return all.toString();
+    }
 }

@@ -6,9 +6,10 @@ import java.util.regex.Pattern;
 /** Rules of LANGUAGE.md that can be seen in the source, seen from the project's folder. */
 public final class LanguageTest {
     private static final String[] NEVER = {
-        "\\bimport\\b", "\\bpackage\\b", "\\bthrow\\b", "\\bthrows\\b", "\\btry\\b", "\\bcatch\\b", "\\bsynchronized\\b",
-        "\\bassert\\b", "->", "::", "Exact\\b", "\\bhashCode\\b", "\\btoString\\b", "\\bprotected\\b", "\\bSystem\\.(?!arraycopy)",
-        "\\bThread\\b", "\\bRandom\\b", "\\bvolatile\\b", "\\bnative\\b", "static \\{", "static int \\w+ =",
+        "\\bimport (?!java\\.util\\.(ArrayList|List|Arrays|Iterator);)", "\\bpackage\\b", "\\bthrow\\b", "\\bthrows\\b", "\\btry\\b",
+        "\\bcatch\\b", "\\bsynchronized\\b", "\\bassert\\b", "(?m)^(?!\\s*(case|default)\\b).*->", "::", "Exact\\b",
+        "\\bhashCode\\b", "\\bprotected\\b", "\\bSystem\\.(?!arraycopy)", "\\bThread\\b", "\\bRandom\\b", "\\bvolatile\\b",
+        "\\bnative\\b", "static \\{", "static int \\w+ =",
     };
 
     public static void main(String[] args) throws Exception {

@@ -4,6 +4,8 @@ import java.util.Random;
 public final class ModelTest {
     private static final int RUNS = 3000;
     private static final int MOST_CALLS = 512;
+    // A text of 120 letters told, one call, and a look at eight TASKS.
+    private static final int MOST_CALLS_A_ROUND = 123 + 1 + 83;
     private static final int[] ODD = {-1, 8, 9, 13, 60, 61, 100, 256, Integer.MAX_VALUE, Integer.MIN_VALUE};
 
     private final Check check = new Check("ModelTest");
@@ -26,7 +28,7 @@ public final class ModelTest {
         model = new Model();
         calls = 0;
         run = "run " + i + " ";
-        while (calls < MOST_CALLS - 180) {
+        while (calls <= MOST_CALLS - MOST_CALLS_A_ROUND) {
             if (calls == 0 || random.nextInt(40) == 0) tell();
             anyCall();
             if (random.nextInt(12) == 0) look();
